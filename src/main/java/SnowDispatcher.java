@@ -65,69 +65,117 @@ public final class SnowDispatcher {
     public int addStreet(int first, int second, char streetClass, int length)
             throws IndexOutOfBoundsException, IllegalArgumentException, IllegalStateException {
         history.write(town);
-        return keepChange(town.putStreet(first, second, streetClass, length));
+        int street = town.putStreet(first, second, streetClass, length);
+        if (street == NO_INDEX) {
+            throw new IndexOutOfBoundsException("no such junction");
+        }
+        if (street == BAD_ARGUMENT) {
+            throw new IllegalArgumentException("twice the same junction, no such class, or no such length");
+        }
+        if (street == BAD_STATE) {
+            throw new IllegalStateException("there are 12 streets, or the junctions are connected");
+        }
+        history.push();
+        return street;
     }
 
     public int addPlough(int junction) throws IndexOutOfBoundsException, IllegalStateException {
         history.write(town);
-        return keepChange(town.putPlough(junction));
+        int plough = town.putPlough(junction);
+        if (plough == NO_INDEX) {
+            throw new IndexOutOfBoundsException("no such junction");
+        }
+        if (plough == BAD_STATE) {
+            throw new IllegalStateException("there are 4 ploughs");
+        }
+        history.push();
+        return plough;
     }
 
     public int order(int plough, int street) throws IndexOutOfBoundsException, IllegalStateException {
         history.write(town);
-        return keepChange(town.appendOrder(plough, street));
+        int orders = town.appendOrder(plough, street);
+        if (orders == NO_INDEX) {
+            throw new IndexOutOfBoundsException("no such plough or no such street");
+        }
+        if (orders == BAD_STATE) {
+            throw new IllegalStateException("there are 5 orders in the queue");
+        }
+        history.push();
+        return orders;
     }
 
     public int cancelOrder(int plough) throws IndexOutOfBoundsException, NoSuchElementException {
         history.write(town);
-        return keepChange(town.removeOrder(plough));
+        int street = town.removeOrder(plough);
+        if (street == NO_INDEX) {
+            throw new IndexOutOfBoundsException("no such plough");
+        }
+        if (street == NO_ELEMENT) {
+            throw new NoSuchElementException("the queue is empty");
+        }
+        history.push();
+        return street;
     }
 
     public int salt(int street)
             throws IndexOutOfBoundsException, UnsupportedOperationException, IllegalStateException {
         history.write(town);
-        return keepChange(town.spreadSalt(street));
+        int left = town.spreadSalt(street);
+        if (left == NO_INDEX) {
+            throw new IndexOutOfBoundsException("no such street");
+        }
+        if (left == UNSUPPORTED) {
+            throw new UnsupportedOperationException("the street is salted");
+        }
+        if (left == BAD_STATE) {
+            throw new IllegalStateException("the store has too few units");
+        }
+        history.push();
+        return left;
     }
 
     public int loadSalt(int units) throws IllegalArgumentException, UnsupportedOperationException {
         history.write(town);
-        return keepChange(town.fillStore(units));
+        int stored = town.fillStore(units);
+        if (stored == BAD_ARGUMENT) {
+            throw new IllegalArgumentException("not between 1 and 200 units");
+        }
+        if (stored == UNSUPPORTED) {
+            throw new UnsupportedOperationException("the store would contain more than 500 units");
+        }
+        history.push();
+        return stored;
     }
 
     public int setSnowfall(int rate) throws IllegalArgumentException {
         history.write(town);
-        return keepChange(town.changeRate(rate));
+        int previous = town.changeRate(rate);
+        if (previous == BAD_ARGUMENT) {
+            throw new IllegalArgumentException("the rate is not between 0 and 9");
+        }
+        history.push();
+        return previous;
     }
 
     public int setWind(int force) throws IllegalArgumentException {
         history.write(town);
-        return keepChange(town.changeForce(force));
+        int previous = town.changeForce(force);
+        if (previous == BAD_ARGUMENT) {
+            throw new IllegalArgumentException("the force is not between 0 and 9");
+        }
+        history.push();
+        return previous;
     }
 
     public int advance(int minutes) throws IllegalArgumentException {
         history.write(town);
-        return keepChange(town.passMinutes(minutes));
-    }
-
-    /** Lets a change that was made be undone from now on; throws what the document wants if it was refused. */
-    private int keepChange(int answer) {
-        if (answer == NO_INDEX) {
-            throw new IndexOutOfBoundsException("no such junction, street or plough");
-        }
-        if (answer == BAD_ARGUMENT) {
-            throw new IllegalArgumentException("an argument is not allowed");
-        }
-        if (answer == UNSUPPORTED) {
-            throw new UnsupportedOperationException("the street is salted or the store would overflow");
-        }
-        if (answer == BAD_STATE) {
-            throw new IllegalStateException("the state does not allow this");
-        }
-        if (answer == NO_ELEMENT) {
-            throw new NoSuchElementException("the queue is empty");
+        int clearings = town.passMinutes(minutes);
+        if (clearings == BAD_ARGUMENT) {
+            throw new IllegalArgumentException("not between 1 and 600 minutes");
         }
         history.push();
-        return answer;
+        return clearings;
     }
 
     // Streets
@@ -1277,7 +1325,6 @@ public final class SnowDispatcher {
                     found++;
                 } else if (wanted == '%') {
                     values[found] = readNumber();
-                    found++;
                     return;
                 }
                 at++;

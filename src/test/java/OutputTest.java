@@ -20,7 +20,9 @@ public final class OutputTest {
         d.advance(120);
         Check.is("45 two digits", "2:6-7c18cm", Towns.streetText(d, 2));
         Check.is("45 salted and deep", "0:0-1b12cm*", Towns.streetText(d, 0));
-        d.advance(120);
+        d.advance(119);
+        Check.is("45 last salted minute", "0:0-1b18cm*", Towns.streetText(d, 0));
+        d.advance(1);
         Check.is("45 no longer salted", "0:0-1b27cm", Towns.streetText(d, 0));
         for (int i = 0; i < 3; i++) {
             d.advance(600);

@@ -97,6 +97,7 @@ public final class PloughsTest {
         Check.is("10 not yet cleared", 0, d.advance(12));
         Check.is("25 last minute", true, d.isBusy(0));
         Check.is("28 last minute", 1, d.busyMinutes(0));
+        Check.is("27 last minute", 1, d.currentStreet(0));
         Check.is("10 cleared", 1, d.advance(1));
         Check.is("25 idle again", false, d.isBusy(0));
         Check.is("26 idle again", 2, d.junction(0));
@@ -189,7 +190,7 @@ public final class PloughsTest {
         }
         d.order(0, 1);
         d.advance(3);
-        Check.is("31 busy", 12, d.orderMinutes(0, 0) - 4);
+        Check.is("31 busy, from where it will be", 16, d.orderMinutes(0, 0));
         Check.is("31 changes nothing", 11, d.busyMinutes(0));
     }
 
@@ -214,7 +215,7 @@ public final class PloughsTest {
         }
     }
 
-    /** Street 2 is far: two drives of 74 minutes with streets of 36 minutes take long enough for the border. */
+    /** The plough drives to and fro along a row of long streets, so that the last order ends after 600 minutes. */
     private static void promise32Border() {
         SnowDispatcher d = new SnowDispatcher();
         for (int junction = 0; junction < 7; junction++) {
@@ -226,8 +227,8 @@ public final class PloughsTest {
         d.order(0, 6);
         d.order(0, 0);
         d.order(0, 3);
-        // 6 * 18 + 36, then 6 * 18 + 36 each time, then 3 * 18 + 36 to the street in the middle
-        int due = 4 * (6 * 18 + 36) + 2 * 18 + 18 + 36;
+        // Each street takes 18 minutes to drive along and 36 to plough.
+        int due = 4 * (6 * 18 + 36) + 3 * 18 + 36;
         int early = due - 600;
         Check.refuses("32 beyond 600", ELEMENT, () -> d.minutesUntilCleared(3));
         d.advance(early - 1);
@@ -257,6 +258,12 @@ public final class PloughsTest {
         Check.refuses("33 greatest", ARGUMENT, () -> d.depthAfter(1, Integer.MAX_VALUE));
         Check.refuses("33 street 3", INDEX, () -> d.depthAfter(3, 601));
         Check.refuses("33 street -1", INDEX, () -> d.depthAfter(-1, 0));
+        d.setWind(0);
+        d.advance(59);
+        Check.is("33 now, a minute before the hour", 0, d.depthAfter(1, 0));
+        Check.is("33 after that minute", 7, d.depthAfter(1, 1));
+        d.undo();
+        d.undo();
         Check.is("33 changes nothing", 60, d.time());
         Check.is("33 no clearing", 0, d.clearedTotal());
         Check.is("33 the complaints stay", 1, d.complaintTotal());

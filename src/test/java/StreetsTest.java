@@ -111,6 +111,17 @@ public final class StreetsTest {
             Check.is("17 b, hour " + hour, hour > 2, d.isOverdue(0));
             Check.is("17 c, hour " + hour, hour > 3, d.isOverdue(2));
         }
+        SnowDispatcher slow = Towns.small();
+        slow.setSnowfall(1);
+        for (int depth = 1; depth <= 20; depth++) {
+            slow.advance(60);
+            Check.is("17 a, depth " + depth, depth > 5, slow.isOverdue(1));
+            Check.is("17 b, depth " + depth, depth > 10, slow.isOverdue(0));
+            Check.is("17 c, depth " + depth, depth > 15, slow.isOverdue(2));
+            Check.is("20 a, depth " + depth, Math.max(0, depth - 5), slow.complaints(1));
+            Check.is("20 b, depth " + depth, Math.max(0, depth - 10), slow.complaints(0));
+            Check.is("20 c, depth " + depth, Math.max(0, depth - 15), slow.complaints(2));
+        }
     }
 
     private static void promises18And19() {

@@ -53,7 +53,9 @@ public final class TotalsTest {
         Check.is("43 two thirds", 2.0f / 3.0f, d.saltedShare());
         d.salt(0);
         Check.is("43 all", 1.0f, d.saltedShare());
-        d.advance(240);
+        d.advance(239);
+        Check.is("43 last minute", 1.0f, d.saltedShare());
+        d.advance(1);
         Check.is("43 over", 0.0f, d.saltedShare());
         // Three streets melted for three hours: 5 + 5 + (5 - 3) * 3 and twice 5 + (5 - 3) * 3
         Check.is("42 later", 38.0 / 3.0, d.meanDepth());
@@ -84,9 +86,10 @@ public final class TotalsTest {
         int[] snow = (int[]) in(in(town, "streets"), "snow");
         snow[2] = 201;
         Check.is("44 too deep", false, d.isConsistent());
-        snow[2] = -1;
-        Check.is("44 below 0", false, d.isConsistent());
         snow[2] = 200;
+        snow[0] = -1;
+        Check.is("44 below 0", false, d.isConsistent());
+        snow[0] = 0;
         Check.is("44 just right", true, d.isConsistent());
         int[] size = (int[]) in(in(town, "streets"), "size");
         size[0] = -5;

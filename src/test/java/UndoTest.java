@@ -12,6 +12,7 @@ public final class UndoTest {
         promise52Branches();
         promises53And54();
         everythingIsCovered();
+        eachKind();
         Check.end();
     }
 
@@ -137,6 +138,8 @@ public final class UndoTest {
         d.loadSalt(100);
         d.setSnowfall(7);
         d.setWind(3);
+        d.addPlough(7);
+        d.order(2, 0);
         d.order(0, 4);
         d.order(0, 0);
         d.order(1, 11);
@@ -158,6 +161,46 @@ public final class UndoTest {
         d.salt(2);
         d.restore();
         Check.is("54 the state", before, all(d));
+    }
+
+    /** Each kind of change is undone by itself, just behind another one. */
+    private static void eachKind() {
+        eachUndone("addStreet", d -> d.addStreet(3, 4, 'c', 1));
+        eachUndone("addPlough", d -> d.addPlough(7));
+        eachUndone("order", d -> d.order(0, 2));
+        eachUndone("cancelOrder", d -> d.cancelOrder(0));
+        eachUndone("salt", d -> d.salt(1));
+        eachUndone("loadSalt", d -> d.loadSalt(7));
+        eachUndone("setSnowfall", d -> d.setSnowfall(8));
+        eachUndone("setWind", d -> d.setWind(8));
+        eachUndone("advance", d -> d.advance(200));
+        eachUndone("runScript", d -> Towns.run(d, "street 3 5 a9;plough 3;order 0 1;salt 1;load 5;wait 70"));
+    }
+
+    private interface Step {
+        Object take(SnowDispatcher d);
+    }
+
+    private static void eachUndone(String name, Step step) {
+        SnowDispatcher d = Towns.smallWithPlough();
+        d.setSnowfall(3);
+        d.loadSalt(20);
+        d.advance(65);
+        d.order(0, 2);
+        d.advance(1);
+        d.order(0, 0);
+        d.order(0, 2);
+        String before = all(d);
+        step.take(d);
+        Check.is("52 does something: " + name, false, before.equals(all(d)));
+        Check.is("52 left: " + name, 7, d.undo());
+        Check.is("52 undoes " + name, before, all(d));
+        step.take(d);
+        d.save();
+        String later = all(d);
+        d.undo();
+        d.restore();
+        Check.is("54 brings back " + name, later, all(d));
     }
 
     private static String all(SnowDispatcher d) {
