@@ -221,6 +221,7 @@ public final class ScriptTest {
         Check.is("49 '" + script + "'", FAILED, Towns.run(d, script));
         Check.is("51 '" + script + "'", due, d.failedCommand());
         Check.is("49 nothing was carried out", "0 0 0 1 3",
-                d.snowfall() + " " + d.time() % 601 + " " + d.saltStore() + " " + d.ploughCount() + " " + d.streetCount());
+                d.snowfall() + " " + d.time() % 601 + " " + d.saltStore() + " " + d.ploughCount() + " "
+                        + d.streetCount());
     }
 }

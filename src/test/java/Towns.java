@@ -31,6 +31,25 @@ final class Towns {
         return d;
     }
 
+    /** Streets 0: 0-1, 1: 1-2 and so on with these depths, none of which is greater than the one before. */
+    static SnowDispatcher snowy(char streetClass, int... depths) {
+        SnowDispatcher d = new SnowDispatcher();
+        for (int street = 0; street < depths.length; street++) {
+            d.addStreet(street, street + 1, streetClass, 1);
+            snow(d, depths[street] - (street + 1 < depths.length ? depths[street + 1] : 0));
+        }
+        return d;
+    }
+
+    /** Lets this much snow fall on each street, in an hour for every 9 centimetres; afterwards none falls. */
+    static void snow(SnowDispatcher d, int centimetres) {
+        for (int left = centimetres; left > 0; left -= 9) {
+            d.setSnowfall(Math.min(left, 9));
+            d.advance(60);
+        }
+        d.setSnowfall(0);
+    }
+
     static void type(SnowDispatcher d, String text) {
         for (int i = 0; i < text.length(); i++) {
             d.type(text.charAt(i));
