@@ -413,6 +413,10 @@ public final class AnswersTest {
         d.salt(11);
         Check.is("45 greatest", "11:1-6c200cm*", Towns.streetText(d, 11));
         Check.is("45 its length", 13, d.renderStreet(11));
+        d.advance(239);
+        Check.is("45 salted for one more minute", "11:1-6c191cm*", Towns.streetText(d, 11));
+        d.advance(1);
+        Check.is("45 no longer salted", "11:1-6c191cm", Towns.streetText(d, 11));
         Check.is("45 index 9", "9:1-4a200cm", Towns.streetText(d, 9));
         Check.is("45 index 10", "10:1-5b200cm", Towns.streetText(d, 10));
     }

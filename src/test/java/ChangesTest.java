@@ -4,6 +4,7 @@ import java.util.NoSuchElementException;
 public final class ChangesTest {
     private static final Class<NoSuchElementException> ELEMENT = NoSuchElementException.class;
     private static final Class<IllegalStateException> STATE = IllegalStateException.class;
+    private static final String[] QUEUES = {"4,1,3,0,2", "11,7,10,6,9", "0,5,0,5,0", "8,9,10,11,3"};
 
     public static void main(String[] args) {
         eachKindIsAChange();
@@ -20,6 +21,8 @@ public final class ChangesTest {
         undoAcrossASave();
         undoAfterARestore();
         addedAnew();
+        otherThingsAtTheSameIndex();
+        fullQueuesOfAllPloughs();
         Check.end();
     }
 
@@ -261,6 +264,63 @@ public final class ChangesTest {
             Check.is("36 eight again", left + 1, d.snowfall());
         }
         Check.refuses("52 not a ninth", ELEMENT, () -> d.undo());
+    }
+
+    /** After the snapshot another street and another plough take the place of those that it holds. */
+    private static void otherThingsAtTheSameIndex() {
+        SnowDispatcher d = new SnowDispatcher();
+        d.addPlough(2);
+        d.addStreet(0, 3, 'a', 4);
+        d.save();
+        d.undo();
+        d.undo();
+        d.addPlough(5);
+        d.addStreet(1, 6, 'c', 9);
+        Check.is("2 another street", "0:1-6c0cm 9", Towns.streetText(d, 0) + " " + d.length(0));
+        Check.is("3 another plough", 5, d.junction(0));
+        Towns.snow(d, 7);
+        Check.is("17 another class", false, d.isOverdue(0));
+        d.restore();
+        Check.is("54 the saved street", "0:0-3a0cm 4", Towns.streetText(d, 0) + " " + d.length(0));
+        Check.is("54 the saved plough", 2, d.junction(0));
+        Towns.snow(d, 7);
+        Check.is("17 the saved class", true, d.isOverdue(0));
+        Check.is("21 the saved ends", 4, d.distance(0, 3));
+        Check.refuses("21 not those of the other one", ELEMENT, () -> d.distance(1, 6));
+    }
+
+    private static void fullQueuesOfAllPloughs() {
+        SnowDispatcher d = Towns.full();
+        for (int plough = 0; plough < 4; plough++) {
+            d.addPlough(plough);
+            for (String street : QUEUES[plough].split(",")) {
+                d.order(plough, Integer.parseInt(street));
+            }
+        }
+        d.save();
+        d.advance(600);
+        Check.is("Changes: all is carried out", "20 0 0 0 0", d.clearedTotal() + " " + lengths(d));
+        d.undo();
+        queuesAreFull("Changes: undo brings back the queues", d);
+        for (int order = 0; order < 4; order++) {
+            d.cancelOrder(order);
+        }
+        d.advance(100);
+        d.restore();
+        queuesAreFull("Changes: the snapshot brings back the queues", d);
+        int due = d.minutesUntilCleared(8);
+        Check.is("Changes: predictions know the queues", true, d.minutesUntilCleared(3) > due);
+        queuesAreFull("Changes: predictions leave the queues", d);
+    }
+
+    private static String lengths(SnowDispatcher d) {
+        return d.queueLength(0) + " " + d.queueLength(1) + " " + d.queueLength(2) + " " + d.queueLength(3);
+    }
+
+    private static void queuesAreFull(String sentence, SnowDispatcher d) {
+        for (int plough = 0; plough < 4; plough++) {
+            Check.is(sentence + ", plough " + plough, QUEUES[plough], Towns.queueText(d, plough));
+        }
     }
 
     /** Nothing of a street or plough that was undone comes back with the next one at its index. */

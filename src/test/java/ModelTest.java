@@ -93,8 +93,8 @@ public final class ModelTest {
 
     private int[] arguments(String name) {
         return switch (name) {
-            case "addStreet" -> new int[] {near(8), near(8), 'a' + (rarely() ? 3 - random.nextInt(5) : random.nextInt(3)),
-                near(9) + (rarely() ? 0 : 1)};
+            case "addStreet" -> new int[] {near(8), near(8),
+                'a' + (rarely() ? 3 - random.nextInt(5) : random.nextInt(3)), near(9) + (rarely() ? 0 : 1)};
             case "addPlough" -> new int[] {near(8)};
             case "distance", "distanceByJunctions" -> new int[] {near(8), near(8)};
             case "order", "orderMinutes" -> new int[] {near(ploughs()), near(streets())};

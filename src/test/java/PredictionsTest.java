@@ -12,6 +12,8 @@ public final class PredictionsTest {
         clearedOnceMore();
         depthAtEachMinute();
         depthFor0And600();
+        depthInOneMinute();
+        clearedByTheLastPlough();
         asItComesTrue();
         askingChangesNothing();
         Check.end();
@@ -126,15 +128,47 @@ public final class PredictionsTest {
         Check.is("33 now", 199, d.depthAfter(0, 0));
     }
 
+    private static void depthInOneMinute() {
+        SnowDispatcher d = Towns.snowy('a', 20);
+        d.addPlough(0);
+        d.setSnowfall(9);
+        d.advance(50);
+        d.order(0, 0);
+        d.advance(3);
+        Check.is("33 before it is cleared", "20 0", d.depthAfter(0, 0) + " " + d.depthAfter(0, 1));
+        d.advance(6);
+        Check.is("33 before the hour", "0 9", d.depthAfter(0, 0) + " " + d.depthAfter(0, 1));
+        d.advance(1);
+        Check.is("33 at the hour", "9 9", d.depthAfter(0, 0) + " " + d.depthAfter(0, 1));
+    }
+
+    /** The fifth order of the fourth plough is for the only street of its own. */
+    private static void clearedByTheLastPlough() {
+        SnowDispatcher d = Towns.full();
+        for (int plough = 0; plough < 4; plough++) {
+            d.addPlough(0);
+            for (int order = 0; order < 4; order++) {
+                d.order(plough, 0);
+            }
+        }
+        d.order(3, 11);
+        // Four times to and fro, then from junction 0 to 1 and from there to 6.
+        Check.is("32 the last order of the last plough", 4 * 4 + 2 + 4, d.minutesUntilCleared(11));
+        Check.is("32 the first orders of all", 4, d.minutesUntilCleared(0));
+        Check.refuses("32 no order", ELEMENT, () -> d.minutesUntilCleared(10));
+        Check.is("32 only the others before", 4 * 4, d.advance(21));
+        Check.is("32 comes true", 1, d.advance(1));
+    }
+
     private static void asItComesTrue() {
         SnowDispatcher d = Twins.busy();
-        int[] predicted = new int[150];
-        for (int minutes = 1; minutes <= 150; minutes++) {
+        int[] predicted = new int[140];
+        for (int minutes = 1; minutes <= 140; minutes++) {
             predicted[minutes - 1] = d.depthAfter(0, minutes);
         }
         int due = d.minutesUntilCleared(0);
         int cleared = 0;
-        for (int minutes = 1; minutes <= 150; minutes++) {
+        for (int minutes = 1; minutes <= 140; minutes++) {
             d.advance(1);
             Check.is("33 comes true, minute " + minutes, predicted[minutes - 1], d.depth(0));
             cleared = cleared == 0 && d.depth(0) == 0 ? minutes : cleared;

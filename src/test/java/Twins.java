@@ -125,10 +125,12 @@ final class Twins {
 
     static String state(SnowDispatcher d) {
         StringBuilder text = new StringBuilder();
-        for (int street = 0; street < d.streetCount(); street++) {
+        int streets = d.streetCount();
+        for (int street = 0; street < streets; street++) {
             appendStreet(text, d, street);
         }
-        for (int plough = 0; plough < d.ploughCount(); plough++) {
+        int ploughs = d.ploughCount();
+        for (int plough = 0; plough < ploughs; plough++) {
             appendPlough(text, d, plough);
         }
         return text.append(brief(d)).toString();
@@ -145,7 +147,8 @@ final class Twins {
     private static void appendPlough(StringBuilder text, SnowDispatcher d, int plough) {
         text.append("plough ").append(plough).append(": ").append(d.isBusy(plough)).append(' ');
         text.append(d.junction(plough)).append(' ').append(Check.outcome(() -> d.currentStreet(plough))).append(' ');
-        for (int position = 0; position < d.queueLength(plough); position++) {
+        int orders = d.queueLength(plough);
+        for (int position = 0; position < orders; position++) {
             text.append(' ').append(d.queuedStreet(plough, position));
         }
         text.append('\n');
@@ -158,7 +161,8 @@ final class Twins {
         text.append(d.failedOrders()).append(' ').append(d.complaintTotal()).append(' ').append(d.streetCount());
         text.append(' ').append(Check.outcome(() -> d.meanDepth()));
         text.append(' ').append(Check.outcome(() -> d.saltedShare()));
-        for (int plough = 0; plough < d.ploughCount(); plough++) {
+        int ploughs = d.ploughCount();
+        for (int plough = 0; plough < ploughs; plough++) {
             text.append(' ').append(d.busyMinutes(plough)).append('+').append(d.queueLength(plough));
         }
         return text.append('\n').toString();

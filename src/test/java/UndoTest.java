@@ -132,6 +132,23 @@ public final class UndoTest {
     }
 
     private static void everythingIsCovered() {
+        SnowDispatcher undone = eventful();
+        String before = Twins.state(undone);
+        moreEvents(undone);
+        Check.is("52 other state", false, before.equals(Twins.state(undone)));
+        for (int i = 0; i < 4; i++) {
+            undone.undo();
+        }
+        Check.is("52 the state", before, Twins.state(undone));
+        SnowDispatcher restored = eventful();
+        restored.save();
+        moreEvents(restored);
+        restored.undo();
+        restored.restore();
+        Check.is("54 the state", before, Twins.state(restored));
+    }
+
+    private static SnowDispatcher eventful() {
         SnowDispatcher d = Towns.full();
         d.addPlough(0);
         d.addPlough(3);
@@ -146,21 +163,15 @@ public final class UndoTest {
         d.salt(5);
         d.advance(62);
         d.order(1, 2);
-        String before = all(d);
-        d.save();
+        return d;
+    }
+
+    /** Four changes. */
+    private static void moreEvents(SnowDispatcher d) {
         d.advance(600);
         d.salt(1);
         d.order(0, 7);
         d.setSnowfall(1);
-        Check.is("52 other state", false, before.equals(all(d)));
-        for (int i = 0; i < 4; i++) {
-            d.undo();
-        }
-        Check.is("52 the state", before, all(d));
-        d.advance(77);
-        d.salt(2);
-        d.restore();
-        Check.is("54 the state", before, all(d));
     }
 
     /** Each kind of change is undone by itself, just behind another one. */
@@ -177,11 +188,7 @@ public final class UndoTest {
         eachUndone("runScript", d -> Towns.run(d, "street 3 5 a9;plough 3;order 0 1;salt 1;load 5;wait 70"));
     }
 
-    private interface Step {
-        Object take(SnowDispatcher d);
-    }
-
-    private static void eachUndone(String name, Step step) {
+    private static void eachUndone(String name, Twins.Step step) {
         SnowDispatcher d = Towns.smallWithPlough();
         d.setSnowfall(3);
         d.loadSalt(20);
@@ -190,33 +197,16 @@ public final class UndoTest {
         d.advance(1);
         d.order(0, 0);
         d.order(0, 2);
-        String before = all(d);
+        String before = Twins.state(d);
         step.take(d);
-        Check.is("52 does something: " + name, false, before.equals(all(d)));
+        Check.is("52 does something: " + name, false, before.equals(Twins.state(d)));
         Check.is("52 left: " + name, 7, d.undo());
-        Check.is("52 undoes " + name, before, all(d));
+        Check.is("52 undoes " + name, before, Twins.state(d));
         step.take(d);
         d.save();
-        String later = all(d);
+        String later = Twins.state(d);
         d.undo();
         d.restore();
-        Check.is("54 brings back " + name, later, all(d));
-    }
-
-    private static String all(SnowDispatcher d) {
-        StringBuilder text = new StringBuilder();
-        for (int street = 0; street < d.streetCount(); street++) {
-            text.append(Towns.streetText(d, street)).append(' ').append(d.complaints(street)).append(' ');
-            text.append(d.isSalted(street) ? d.saltMinutes(street) : -1).append('\n');
-        }
-        for (int plough = 0; plough < d.ploughCount(); plough++) {
-            text.append(d.junction(plough)).append(' ').append(d.busyMinutes(plough)).append(' ');
-            text.append(d.isBusy(plough) ? d.currentStreet(plough) : -1).append(' ');
-            text.append(Towns.queueText(d, plough)).append('\n');
-        }
-        text.append(d.time()).append(' ').append(d.saltStore()).append(' ').append(d.snowfall()).append(' ');
-        text.append(d.wind()).append(' ').append(d.clearedTotal()).append(' ').append(d.ploughedTotal()).append(' ');
-        text.append(d.failedOrders()).append(' ').append(d.complaintTotal());
-        return text.toString();
+        Check.is("54 brings back " + name, later, Twins.state(d));
     }
 }
